@@ -9,8 +9,12 @@ final class Check {
     }
 
     void same(String call, int got, int due) {
+        same(call, Integer.toString(got), Integer.toString(due));
+    }
+
+    void same(String call, String got, String due) {
         checked++;
-        if (got != due) {
+        if (!got.equals(due)) {
             wrong++;
             System.out.println(test + ": " + call + " answered " + got + ", due is " + due);
         }
@@ -37,6 +41,14 @@ final class Check {
             wrong++;
             System.out.println(test + ": " + call + " threw " + got + ", due is " + due);
         }
+    }
+
+    void badArgument(String call, Runnable run) {
+        throwing(call, run, IllegalArgumentException.class);
+    }
+
+    void badIndex(String call, Runnable run) {
+        throwing(call, run, IndexOutOfBoundsException.class);
     }
 
     void finish() {

@@ -1,21 +1,5 @@
 /** Each promise by hand: ordinary inputs, the edges that the document names, wrong inputs. */
-public final class PromisesTest {
-    private static final int FULL = 0;
-    private static final int DIFF = 1;
-    private static final int INCR = 2;
-    private static final int NONE = ChainPicker.NONE;
-
-    private static final int LEVEL = 1;
-    private static final int UPGRADED = 2;
-    private static final int BASE = 3;
-    private static final int BEGAN = 4;
-    private static final int ENDED = 5;
-    private static final int STATE = 6;
-    private static final int PRUNED = 7;
-    private static final int TOLD = 8;
-    private static final int SINCE = 9;
-    private static final int STANDING = 10;
-
+public final class PromisesTest extends Jobs {
     private static final Check CHECK = new Check("PromisesTest");
 
     public static void main(String[] args) {
@@ -48,19 +32,6 @@ public final class PromisesTest {
         count();
         refusedChangesNothing();
         CHECK.finish();
-    }
-
-    /** A job of a series that begins and ends at once, good. */
-    private static int good(ChainPicker x, int series, int level) {
-        int job = x.begin(series, level);
-        CHECK.yes("end of a good job", x.end(job, true));
-        return job;
-    }
-
-    private static int bad(ChainPicker x, int series, int level) {
-        int job = x.begin(series, level);
-        CHECK.yes("end of a bad job", x.end(job, false));
-        return job;
     }
 
     private static void newObject() {
@@ -337,27 +308,6 @@ public final class PromisesTest {
         CHECK.same("files through 200", x.files(0, 0), 1);
         x.pass(1);
         CHECK.same("the whole chain but its full goes", x.expire(0), 199);
-    }
-
-    /** A full with files 1, 2, 3, an incr that changes 1 and loses 2, one that brings 2 back. */
-    private static ChainPicker threeLinks() {
-        ChainPicker x = new ChainPicker();
-        int full = x.begin(1, FULL);
-        x.tell(full, 1, 11);
-        x.tell(full, 2, 12);
-        x.tell(full, 3, 0);
-        x.end(full, true);
-        x.pass(10);
-        int lose = x.begin(1, INCR);
-        x.tell(lose, 1, 21);
-        x.tell(lose, 2, NONE);
-        x.tell(lose, 4, NONE);
-        x.end(lose, true);
-        x.pass(10);
-        int back = x.begin(1, INCR);
-        x.tell(back, 2, 32);
-        x.end(back, true);
-        return x;
     }
 
     private static void view() {
