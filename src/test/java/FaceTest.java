@@ -6,7 +6,7 @@ import java.util.Arrays;
 import java.util.Set;
 import java.util.TreeSet;
 
-/** The class has the members of the document's face, and no other that is not private. */
+/** The class has the members of the document's face, no other that is not private, no static state. */
 public final class FaceTest {
     private static final String[] DUE = {
         "public ChainPicker()",
@@ -36,10 +36,51 @@ public final class FaceTest {
         for (String member : got) {
             check.yes("may have " + member, due.contains(member));
         }
+        classItself(check);
+        classesInside(check);
+        namesAreNotShared(check);
+        staticFieldsAreFinal(check, ChainPicker.class);
+        check.finish();
+    }
+
+    private static void classItself(Check check) {
         int modifiers = ChainPicker.class.getModifiers();
         check.yes("is public", Modifier.isPublic(modifiers));
         check.yes("is final", Modifier.isFinal(modifiers));
-        check.finish();
+        check.same("its package", ChainPicker.class.getPackageName(), "");
+        check.yes("extends nothing", ChainPicker.class.getSuperclass() == Object.class);
+        check.same("interfaces", ChainPicker.class.getInterfaces().length, 0);
+        check.same("NONE", ChainPicker.NONE, -1);
+    }
+
+    private static void classesInside(Check check) {
+        for (Class<?> inside : ChainPicker.class.getDeclaredClasses()) {
+            int modifiers = inside.getModifiers();
+            check.yes(inside + " is static", Modifier.isStatic(modifiers));
+            check.no(inside + " is public", Modifier.isPublic(modifiers));
+            check.no(inside + " is protected", Modifier.isProtected(modifiers));
+            staticFieldsAreFinal(check, inside);
+        }
+    }
+
+    private static void namesAreNotShared(Check check) {
+        Set<String> calls = new TreeSet<>();
+        for (Method method : ChainPicker.class.getMethods()) {
+            calls.add(method.getName());
+        }
+        for (Method method : ChainPicker.class.getDeclaredMethods()) {
+            if (Modifier.isPrivate(method.getModifiers())) {
+                check.no("a public method is called " + method.getName(), calls.contains(method.getName()));
+            }
+        }
+    }
+
+    private static void staticFieldsAreFinal(Check check, Class<?> owner) {
+        for (Field field : owner.getDeclaredFields()) {
+            int modifiers = field.getModifiers();
+            check.yes(field + " is final or no static one",
+                    Modifier.isFinal(modifiers) || !Modifier.isStatic(modifiers));
+        }
     }
 
     private static Set<String> membersInSight() {
